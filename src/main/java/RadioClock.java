@@ -46,10 +46,7 @@ public final class RadioClock {
     private final Receiver[] slots = new Receiver[SLOTS];
     private final boolean[] slotFilled = new boolean[SLOTS];
 
-    private final byte[] text = new byte[MAX_TEXT];
-    private int textLength;
-    private final Reader reader = new Reader(text);
-    private int errorAt = NONE;
+    private final Reader reader = new Reader();
 
     private final byte[] written = new byte[WRITTEN_LENGTH];
     private int writtenLength;
@@ -64,26 +61,19 @@ public final class RadioClock {
     }
 
     public int append(int a, int b, int c, int d, int e) throws IllegalStateException {
-        if (textLength + 20 > MAX_TEXT) {
+        if (reader.buffered + 20 > MAX_TEXT) {
             throw new IllegalStateException("the text buffer is full");
         }
-        appendFour(a);
-        appendFour(b);
-        appendFour(c);
-        appendFour(d);
-        appendFour(e);
-        return textLength;
-    }
-
-    private void appendFour(int bytes) {
-        for (int shift = 24; shift >= 0 && textLength < MAX_TEXT; shift -= 8) {
-            text[textLength] = (byte) (bytes >> shift);
-            textLength++;
-        }
+        reader.buffer(a);
+        reader.buffer(b);
+        reader.buffer(c);
+        reader.buffer(d);
+        reader.buffer(e);
+        return reader.buffered;
     }
 
     public int load(int length) throws IllegalArgumentException {
-        if (length < 0 || length > textLength) {
+        if (length < 0 || length > reader.buffered) {
             throw new IllegalArgumentException("the buffer has no such length");
         }
         trial.copyFrom(blank);
@@ -102,8 +92,6 @@ public final class RadioClock {
                 trial.change(reader.verb, reader.first);
             }
         }
-        textLength = 0;
-        errorAt = reader.errorAt;
         if (reader.error != 0) {
             return reader.error;
         }
@@ -113,7 +101,7 @@ public final class RadioClock {
     }
 
     public int errorPosition() {
-        return errorAt;
+        return reader.errorAt;
     }
 
     public int count(int what) throws IllegalArgumentException {
@@ -1041,12 +1029,14 @@ public final class RadioClock {
     private static final class Reader {
         private static final long ABOVE_ALL_RANGES = 10000000000L;
 
-        private final byte[] text;
+        private final byte[] text = new byte[MAX_TEXT];
+        int buffered;
+
         private int length;
         private int at;
         private int wordStart;
         int error;
-        int errorAt;
+        int errorAt = NONE;
 
         // The statement that was read last: a setting has its value in first.
         int verb;
@@ -1055,14 +1045,19 @@ public final class RadioClock {
         boolean leap;
         long lost;
 
-        Reader(byte[] text) {
-            this.text = text;
+        /** Puts four bytes behind the text in the buffer, the most significant one first. */
+        void buffer(int bytes) {
+            for (int shift = 24; shift >= 0 && buffered < MAX_TEXT; shift -= 8) {
+                text[buffered] = (byte) (bytes >> shift);
+                buffered++;
+            }
         }
 
-        void open(int length) {
-            this.length = Math.min(length, text.length);
+        /** Begins to read the first bytes of the buffer, which counts as empty from now on. */
+        void open(int firstBytes) {
+            length = Math.min(firstBytes, buffered);
+            buffered = 0;
             at = 0;
-            wordStart = 0;
             error = 0;
             errorAt = NONE;
         }

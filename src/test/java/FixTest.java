@@ -188,6 +188,19 @@ public final class FixTest {
                 Check.that("that was a change", x.count(10), 7);
             }
         }
+        int[] sums = {419, 420, 421, 422, -419, -420, -421, -422};
+        long[] estimates = {-498, -499, -500, -502, 499, 500, 501, 502};
+        for (int i = 0; i < sums.length; i++) {
+            RadioClock x = farApart(sums[i]);
+            Check.that("estimate by " + sums[i], x.estimate(), estimates[i]);
+            if (estimates[i] < -500 || estimates[i] > 500) {
+                Check.fails("discipline by " + sums[i], Check.STATE, x::discipline);
+                Check.that("the drift stays", x.count(10), 0);
+            } else {
+                Check.that("discipline by " + sums[i], x.discipline(), 0);
+                Check.that("the drift then", (long) x.count(10), estimates[i]);
+            }
+        }
         RadioClock x = hear(3, NOON, 5, 5);
         x.pulse(x.count(11) + 1000, 100);
         Check.that("the latest two fixes count", x.estimate(), -5 * 1000000L / 60005);
@@ -216,6 +229,21 @@ public final class FixTest {
         Check.minute(z, Check.bits(z, 102, false), 0);
         Check.minute(z, Check.bits(z, 103, false), 0);
         Check.that("a jump back", z.estimate(), -(60000L * (52000003 - 104) + 60000) * 1000000 / 60000);
+    }
+
+    /** The latest two fixes are 14 minutes apart, which took some milliseconds more than they should. */
+    private static RadioClock farApart(int more) {
+        RadioClock x = Check.atSecondZero();
+        x.set(1, 2);
+        x.set(2, 3);
+        for (int i = 0; i < 17; i++) {
+            boolean spoilt = i >= 2 && i < 15;
+            int share = more / 14 + (i == 3 ? more % 14 : 0);
+            minute(x, Check.with(Check.bits(x, NOON + i, false), 30, spoilt ? 2 : 1), i < 3 ? 0 : share);
+        }
+        Check.that("fixes", x.count(5), 3);
+        Check.that("minutes between the latest two", x.fix(0, 0) - x.fix(1, 0), 14);
+        return x;
     }
 
     private static void deviation() {

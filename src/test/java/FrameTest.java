@@ -258,7 +258,11 @@ public final class FrameTest {
             Check.minute(x, Check.with(Check.bits(x, minute, false), 25, 2), 0);
         }
         Check.that("no votes", x.votes(102), 0);
+        Check.fails("no favourite", Check.MISSING, x::favourite);
         x.set(3, 1);
+        Check.that("favourite by mend as it is now, asked first", x.favourite(), 102);
+        Check.that("assembled from blocks", x.assembled(), -1);
+        Check.that("favourite, not of the blocks", x.favourite(), 102);
         Check.that("votes by mend as it is now", x.votes(102), 3);
         Check.that("favourite by mend as it is now", x.favourite(), 102);
         Check.that("the told minute waits", x.count(2), -1);
@@ -290,6 +294,13 @@ public final class FrameTest {
         }
         Check.that("the oldest frame", x.frame(7, 2), 107);
         Check.that("voters", x.count(3), 8);
+        for (int k = 0; k < 8; k++) {
+            String bits = Check.bits(x, 114 - k, false);
+            Check.that("fault of frame " + k, x.frame(k, 1), 0);
+            for (int second = 0; second < 59; second++) {
+                Check.that("bit of frame " + k, x.frameBit(k, second), bits.charAt(second) - '0');
+            }
+        }
         Check.fails("no older one", Check.INDEX, () -> x.frame(8, 2));
     }
 

@@ -149,6 +149,9 @@ public final class PulseTest {
         Check.that("doubtful ones", x.count(12), 3);
         Check.that("10 seconds", x.pulse(17000, 100), 2);
         Check.that("doubtful ones", x.count(12), 12);
+        Check.that("2 seconds", x.pulse(19000, 100), 2);
+        Check.that("doubtful ones", x.count(12), 13);
+        Check.that("position", x.count(0), 17);
     }
 
     private static RadioClock atPosition(int position) {

@@ -3,6 +3,7 @@ public final class TextTest {
     public static void main(String[] args) {
         appending();
         lengths();
+        firstBytesAlone();
         bytesInOrder();
         settings();
         pulses();
@@ -43,6 +44,34 @@ public final class TextTest {
         Check.that("quorum", x.count(7), 3);
         Check.that("nothing", x.load(0), 0);
         Check.that("a new receiver", Check.state(x), Check.state(new RadioClock()));
+    }
+
+    /** What stands in the buffer behind the length does not count. */
+    private static void firstBytesAlone() {
+        String text = "mend 12;drift - 17;hear 5 leap lose 12 lose 34 ;quorum 4;pulse 99000 100;";
+        for (int from : new int[] {0, 8, 19, 48}) {
+            String tail = text.substring(from);
+            for (int length = 0; length <= tail.length(); length++) {
+                RadioClock x = new RadioClock();
+                Check.append(x, Check.bytes(tail));
+                RadioClock y = new RadioClock();
+                Check.append(y, Check.bytes(tail.substring(0, length)));
+                Check.that("the first " + length + " bytes of " + tail, x.load(length), y.load(length));
+                Check.that("error position in the first " + length + " bytes of " + tail, x.errorPosition(), y.errorPosition());
+                Check.that("read from them", Check.state(x), Check.state(y));
+            }
+        }
+        RadioClock x = new RadioClock();
+        Check.append(x, Check.bytes("mend 12;"));
+        Check.that("mend 1 without an end", x.load(6), -2);
+        Check.that("at its length", x.errorPosition(), 6);
+        Check.append(x, Check.bytes("mend 1;;"));
+        Check.that("an end too many behind the length", x.load(7), 0);
+        Check.append(x, Check.bytes("mend 1;"));
+        Check.that("an end behind the length", x.load(6), -2);
+        Check.append(x, Check.bytes("mend 1;"));
+        Check.that("a number behind the length", x.load(5), -2);
+        Check.that("at its length", x.errorPosition(), 5);
     }
 
     private static void bytesInOrder() {
@@ -141,6 +170,10 @@ public final class TextTest {
         bad("5;", -2, 0);
         bad("-;", -2, 0);
         bad("Mend 1;", -2, 0);
+        bad("mendz 1;", -2, 0);
+        bad("amend 1;", -2, 0);
+        bad("bend 1;", -2, 0);
+        bad("zend 1;", -2, 0);
         bad("mends 1;", -2, 0);
         bad("men 1;", -2, 0);
         bad("mendx;", -2, 0);

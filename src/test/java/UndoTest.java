@@ -10,6 +10,7 @@ public final class UndoTest {
         eightChanges();
         whatIsNoChange();
         whatUndoLeaves();
+        lengthOfTheMinute();
         undoOfManyFrames();
         slots();
         slotsAndUndo();
@@ -143,6 +144,25 @@ public final class UndoTest {
         Check.that("no error then", x.errorPosition(), -1);
         Check.that("the slot stays", x.restore(0), 0);
         Check.that("with its drift", x.count(10), 9);
+    }
+
+    private static void lengthOfTheMinute() {
+        RadioClock x = Check.atSecondZero();
+        x.set(1, 2);
+        Check.minute(x, Check.bits(x, 57, true), 0);
+        Check.that("usual length", x.count(4), 60);
+        x.save(0);
+        Check.minute(x, Check.bits(x, 58, true), 0);
+        Check.that("with a leap second", x.count(4), 61);
+        x.save(1);
+        Check.that("undo of its last pulse", x.undo(), 7);
+        Check.that("usual length", x.count(4), 60);
+        x.restore(1);
+        Check.that("restored with a leap second", x.count(4), 61);
+        x.restore(0);
+        Check.that("restored with the usual length", x.count(4), 60);
+        x.undo();
+        Check.that("undo of restore", x.count(4), 61);
     }
 
     private static void undoOfManyFrames() {
