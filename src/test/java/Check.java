@@ -4,8 +4,24 @@ import java.util.concurrent.Callable;
 final class Check {
     private static int passed;
     private static int failed;
+    private static String sentence = "";
+    private static int checksAhead;
 
     private Check() {
+    }
+
+    /** Begins the checks of one sentence of the document; it is told with each of them that fails. */
+    static void sentence(String words) {
+        endSentence();
+        sentence = words;
+        checksAhead = passed + failed;
+    }
+
+    /** A sentence for which nothing was checked is a fault of the test. */
+    private static void endSentence() {
+        if (!sentence.isEmpty() && passed + failed == checksAhead) {
+            that("checks of this sentence", 0, 1);
+        }
     }
 
     static void that(String what, Object got, Object want) {
@@ -14,6 +30,9 @@ final class Check {
         } else {
             failed++;
             if (failed <= 30) {
+                if (!sentence.isEmpty()) {
+                    System.out.println("  \"" + sentence + "\"");
+                }
                 System.out.println("  " + what + ": got " + got + ", due is " + want);
             }
         }
@@ -42,6 +61,7 @@ final class Check {
     }
 
     static void end(String test) {
+        endSentence();
         System.out.println(test + ": " + passed + " checks hold, " + failed + " do not");
         if (failed != 0 || passed == 0) {
             System.exit(1);
@@ -116,6 +136,37 @@ final class Check {
         RadioClock x = new RadioClock();
         x.pulse(0, 100);
         x.pulse(2000, 100);
+        return x;
+    }
+
+    /** A receiver at a position of a minute that began at the time 2000; all bits are 0. */
+    static RadioClock atPosition(int position) {
+        RadioClock x = atSecondZero();
+        for (int second = 1; second <= position; second++) {
+            x.pulse(2000 + 1000 * second, 100);
+        }
+        return x;
+    }
+
+    /** A receiver at the second 0, behind frames of as many minutes as count tells, from a first one on. */
+    static RadioClock behind(int quorum, int first, int count) {
+        RadioClock x = atSecondZero();
+        x.set(1, quorum);
+        for (int i = 0; i < count; i++) {
+            minute(x, bits(x, first + i, false), 0);
+        }
+        return x;
+    }
+
+    /** A receiver at a position of a minute with 61 seconds, that began at the time 122000; all bits are 0. */
+    static RadioClock inLeapMinute(int position) {
+        RadioClock x = atSecondZero();
+        x.set(1, 2);
+        minute(x, bits(x, 57, true), 0);
+        minute(x, bits(x, 58, true), 0);
+        for (int second = 1; second <= position; second++) {
+            x.pulse(122000 + 1000 * second, 100);
+        }
         return x;
     }
 

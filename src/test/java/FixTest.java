@@ -45,7 +45,7 @@ public final class FixTest {
     }
 
     /** Goes on by a minute that takes some milliseconds more than it has seconds, by its last step. */
-    private static void minute(RadioClock x, String bits, int more) {
+    static void minute(RadioClock x, String bits, int more) {
         int base = x.count(11) - 1000 * x.count(0);
         for (int second = x.count(0) + 1; second < 59; second++) {
             x.pulse(base + 1000 * second, Check.lengthOf(bits.charAt(second) - '0'));
@@ -232,7 +232,7 @@ public final class FixTest {
     }
 
     /** The latest two fixes are 14 minutes apart, which took some milliseconds more than they should. */
-    private static RadioClock farApart(int more) {
+    static RadioClock farApart(int more) {
         RadioClock x = Check.atSecondZero();
         x.set(1, 2);
         x.set(2, 3);

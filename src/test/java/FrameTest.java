@@ -18,7 +18,7 @@ public final class FrameTest {
     }
 
     /** A receiver whose only frame has these bits. */
-    private static RadioClock frameOf(String bits) {
+    static RadioClock frameOf(String bits) {
         RadioClock x = new RadioClock();
         x.pulse(0, 100);
         x.pulse(2000, Check.lengthOf(bits.charAt(0) - '0'));
@@ -58,7 +58,7 @@ public final class FrameTest {
     }
 
     /** The bits of a time and a date, told by their digits, with right parities. */
-    private static String coded(int minute10, int minute1, int hour10, int hour1, int day10, int day1, int weekday,
+    static String coded(int minute10, int minute1, int hour10, int hour1, int day10, int day1, int weekday,
             int month10, int month1, int year10, int year1) {
         StringBuilder text = new StringBuilder("0".repeat(20) + "1");
         text.append(low(minute1, 4)).append(low(minute10, 3));
