@@ -204,7 +204,7 @@ public final class FrameEdgeTest {
     private static void asManyAsMendTells() {
         Check.sentence("A frame with the fault 1 can be mended if at most so many of these bits are doubtful as mend (0 to 3, at first 0)"
             + " tells");
-        String[] seconds = {"", "20", "20 28", "20 28 29", "20 28 29 0", "20 28 29 0 58"};
+        String[] seconds = {"", "0", "0 58", "0 58 20", "0 58 20 28", "0 58 20 28 29"};
         for (int doubts = 0; doubts <= 5; doubts++) {
             RadioClock x = FrameTest.frameOf(with(noon(), seconds[doubts]));
             Check.that("at first", x.frame(0, 2), doubts == 0 ? NOON : -1);

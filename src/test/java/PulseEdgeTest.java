@@ -9,6 +9,7 @@ public final class PulseEdgeTest {
     public static void main(String[] args) {
         firstAndLastMinute();
         leapYears();
+        edgesOfMonths();
         weekdays();
         wrongNumbers();
         fixedBits();
@@ -77,6 +78,29 @@ public final class PulseEdgeTest {
             Check.that("the day ahead of 1 March " + year, x.part(march - 1, 2), leap ? 29 : 28);
             int days = (x.number(year, 12, 31, 0, 0) - x.number(year, 1, 1, 0, 0)) / 1440 + 1;
             Check.that("days of " + year, days, leap ? 366 : 365);
+        }
+    }
+
+    private static void edgesOfMonths() {
+        Check.sentence("Returns a part of the date and the time of a minute: at the first and the last one of each month");
+        RadioClock x = new RadioClock();
+        for (int year = 2000; year < 2100; year++) {
+            for (int month = 1; month <= 12; month++) {
+                int first = x.number(year, month, 1, 0, 0);
+                int[] due = {year, month, 1, 0, 0};
+                for (int what = 0; what < 5; what++) {
+                    Check.that("part " + what + " of the first one of " + year + "-" + month, x.part(first, what), due[what]);
+                }
+                if (first > 0) {
+                    int[] before = {month > 1 ? year : year - 1, month > 1 ? month - 1 : 12, 0, 23, 59};
+                    for (int what = 0; what < 5; what++) {
+                        int part = x.part(first - 1, what);
+                        boolean right = what == 2 ? part >= 28 && part <= 31 : part == before[what];
+                        Check.that("part " + what + " of the one ahead of " + year + "-" + month, right, true);
+                    }
+                    Check.that("as a number", x.number(before[0], before[1], x.part(first - 1, 2), 23, 59), first - 1);
+                }
+            }
         }
     }
 

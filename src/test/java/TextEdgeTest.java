@@ -341,6 +341,8 @@ public final class TextEdgeTest {
         Check.that("with one", read("drift -5;").count(10), -5);
         Check.that("without leap", read("hear 5;hear 5;hear 6;").frame(0, 3), 0);
         Check.that("with leap", read("hear 5;hear 5 leap;hear 6;").frame(0, 3), 1);
+        Check.that("leap counts for its own statement alone", read("hear 5 leap;hear 6;hear 7;").frame(0, 3), 0);
+        Check.that("and so does lose", read("hear 5 lose 58;hear 6;").count(11), 57000 + 2000 + 58000);
         Check.that("with leap and lose", read("hear 5;hear 5 leap lose 19;hear 6;").frame(0, 3), 2);
         error("drift --5;", -2, 7);
         error("hear 5 leap leap;", -2, 12);
@@ -365,6 +367,15 @@ public final class TextEdgeTest {
         error("hear 5 lea;", -2, 7);
         error("hear 5 lose 3 los 4;", -2, 14);
         error("pulses 5 5;", -2, 0);
+        for (String word : new String[] {"tolerance", "quorum", "window", "mend", "drift", "pulse", "hear"}) {
+            String more = word.equals("pulse") ? " 5 5;" : word.equals("tolerance") ? " 50;" : " 3;";
+            read(word + more);
+            for (int at = 0; at < word.length(); at++) {
+                error(word.substring(0, at) + "z" + word.substring(at + 1) + more, -2, 0);
+                error(word.substring(0, at) + word.substring(at + 1) + more, -2, 0);
+                error(word.substring(0, at) + "z" + word.substring(at) + more, -2, 0);
+            }
+        }
         Check.that("a word ends at a digit", read("mend3;").count(9), 3);
         Check.that("a word begins behind a digit", read("hear5leap lose3lose58;").count(11), 57000);
         error("mend`1;", -2, 4);

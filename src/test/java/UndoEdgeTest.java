@@ -198,6 +198,7 @@ public final class UndoEdgeTest {
             Check.that("undo", y.undo(), left);
             Check.that("as it was", Check.state(y), states.get(left));
         }
+        Check.that("pulses that were ignored", ignoredBehindUndo(), 1);
         // The time of the pulse before, and the length of the minute.
         RadioClock z = Check.atSecondZero();
         z.pulse(2700, 29);
@@ -212,6 +213,14 @@ public final class UndoEdgeTest {
         Check.that("the length of the minute", w.count(4), 61);
         w.undo();
         Check.that("the length of the minute before", w.count(4), 60);
+    }
+
+    private static int ignoredBehindUndo() {
+        RadioClock x = new RadioClock();
+        x.pulse(5, 5);
+        x.pulse(6, 6);
+        x.undo();
+        return x.count(13);
     }
 
     private static void notWhatIsNotPartOfIt() {
